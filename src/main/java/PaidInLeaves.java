@@ -836,11 +836,14 @@ public final class PaidInLeaves {
 
     /** Runs the body of a kind, or of the next kind above that has one. */
     private static int runBody(Stage on, int fromKind, int move, int x, int depth) {
+        if (depth > DEEPEST || move < 0 || move >= MOVES) {
+            return 0;
+        }
         int one = fromKind;
         for (int i = 0; i < KINDS && isKind(one) && BODIES[one * MOVES + move] == 0; i++) {
             one = ABOVE[one];
         }
-        if (depth > DEEPEST || !isKind(one)) {
+        if (!isKind(one)) {
             return 0;
         }
         int body = BODIES[one * MOVES + move];
@@ -1344,10 +1347,6 @@ public final class PaidInLeaves {
             return number;
         }
 
-        int readChildNumber() {
-            return readNumber(0, draft.childCount - 1);
-        }
-
         /** What there is no room for has its fault at its word, but not before the word stands whole. */
         void wantRoom(boolean room, int wordPlace) {
             if (!room) {
@@ -1380,7 +1379,7 @@ public final class PaidInLeaves {
 
         void readFeathers() {
             readWord("feathers");
-            int child = readChildNumber();
+            int child = readNumber(0, draft.childCount - 1);
             int feathers = readNumber(0, MOST_FEATHERS);
             if (faultPlace == NONE) {
                 draft.children[child].feathers = feathers;
@@ -1389,7 +1388,7 @@ public final class PaidInLeaves {
 
         void readKeeps() {
             readWord("keeps");
-            int child = readChildNumber();
+            int child = readNumber(0, draft.childCount - 1);
             int shop = readNumber(0, draft.shopCount - 1);
             if (faultPlace == NONE) {
                 draft.children[child].shopKept = shop;
@@ -1414,7 +1413,7 @@ public final class PaidInLeaves {
 
         void readDeed() {
             readWord("do");
-            int child = readChildNumber();
+            int child = readNumber(0, draft.childCount - 1);
             int deed = readNumber(0, MOST_NUMBER);
             if (faultPlace != NONE) {
                 return;
