@@ -2,6 +2,7 @@
 final class Due {
     private static int wrong = 0;
     private static int asked = 0;
+    private static String words = "";
 
     private Due() {
     }
@@ -10,8 +11,13 @@ final class Due {
         asked++;
         if (got != want) {
             wrong++;
-            System.out.println(call + " answered " + got + ", due is " + want);
+            System.out.println(words + call + " answered " + got + ", due is " + want);
         }
+    }
+
+    /** The document's words that are tested from here on: what fails is told with them. */
+    static void words(String now) {
+        words = "\"" + now + "\": ";
     }
 
     static void end() {

@@ -4,6 +4,9 @@ public final class ImageTest {
         noImage();
         allIsRestored();
         shelvesAfterwards();
+        allShelvesAfterwards();
+        newOnesAreNew();
+        emptyAndFullImages();
         whatIsNotInIt();
         status();
         Due.end();
@@ -88,7 +91,94 @@ public final class ImageTest {
         Due.due("says", x.says(1, 0), -3);
     }
 
+    private static void allShelvesAfterwards() {
+        Due.words("SHELVES with SHOPS hold those of these numbers, or NOTHING");
+        PaidInLeaves x = new PaidInLeaves();
+        x.image();
+        for (int i = 0; i < 6; i++) {
+            x.shop(0, 0, 1 + i);
+        }
+        for (int s = 0; s < 8; s++) {
+            x.show(s, s % 6);
+        }
+        Due.due("restore nothing", x.restore(), 0);
+        for (int s = 0; s < 8; s++) {
+            Due.due("holds(" + s + ")", x.holds(s), -1);
+        }
+        x.shop(0, 0, 50);
+        x.shop(0, 0, 60);
+        x.image();
+        x.shop(0, 0, 70);
+        for (int s = 0; s < 8; s++) {
+            x.show(s, s % 3);
+        }
+        x.restore();
+        for (int s = 0; s < 8; s++) {
+            Due.due("holds(" + s + ")", x.holds(s), s % 3 == 2 ? -1 : s % 3);
+            Due.due("says(" + s + ")", x.says(s, 0), s % 3 == 2 ? -3 : 50 + s % 3 * 10);
+        }
+    }
+
+    private static void newOnesAreNew() {
+        Due.words("SOLD (0 at first), QUIET (0 at first); CAKES (0 at first), KEEPS (NONE at first)");
+        PaidInLeaves x = new PaidInLeaves();
+        x.shop(0, 0, 1);
+        x.image();
+        x.shop(1, 2, 3);
+        x.shop(2, 2, 3);
+        x.child(9, 99);
+        x.tell(0, 2, 7);
+        x.tell(0, 3, 6);
+        x.keeps(0, 2);
+        x.does(0, 11);
+        x.minute(0);
+        x.restore();
+        Due.due("a shop where one was", x.shop(1, 2, 3), 1);
+        Due.due("another", x.shop(2, 2, 3), 2);
+        Due.due("a child where one was", x.child(5, 4), 0);
+        int[] child = {5, 4, 0, 0, 0, 0};
+        for (int what = 0; what < 6; what++) {
+            Due.due("child " + what, x.childOf(0, what), child[what]);
+        }
+        for (int s = 1; s < 3; s++) {
+            Due.due("sold of " + s, x.shopOf(s, 3), 0);
+            Due.due("quiet of " + s, x.shopOf(s, 4), 0);
+            Due.due("asks of " + s, x.shopOf(s, 5), 3);
+        }
+    }
+
+    private static void emptyAndFullImages() {
+        Due.words("THE IMAGE of all is taken: how many SHOPS");
+        PaidInLeaves x = new PaidInLeaves();
+        Due.due("of nothing", x.image(), 0);
+        Due.due("nothing restored", x.restore(), 0);
+        for (int i = 0; i < 6; i++) {
+            x.shop(i, i, 10 + i);
+            x.child(1 + i, 20 + i);
+        }
+        for (int i = 0; i < 6; i++) {
+            Due.due("keeps none yet", x.keeps(i, 5 - i), -1);
+        }
+        Due.due("of six", x.image(), 6);
+        PaidInLeaves y = new PaidInLeaves();
+        y.image();
+        x.afternoon(60);
+        x.night();
+        Due.due("six restored", x.restore(), 6);
+        Due.due("children", x.status(1), 6);
+        for (int i = 0; i < 6; i++) {
+            Due.due("asks of " + i, x.shopOf(i, 5), 10 + i);
+            Due.due("leaves of " + i, x.childOf(i, 1), 20 + i);
+            Due.due("keeps of " + i, x.childOf(i, 5), 6 - i);
+        }
+        Due.due("seed", x.status(7), 1);
+        Due.due("no room in it", x.shop(0, 0, 1), -7);
+        Due.due("no room for a child", x.child(1, 0), -7);
+        Due.due("another object's", y.restore(), 0);
+    }
+
     private static void whatIsNotInIt() {
+        Due.words("all but SHELVES (and THE IMAGE, REFUSALS, the FAULT, THE TRACE)");
         PaidInLeaves x = new PaidInLeaves();
         x.shop(0, 0, 1);
         x.image();
@@ -103,6 +193,7 @@ public final class ImageTest {
     }
 
     private static void status() {
+        Due.words("NONE for another what");
         PaidInLeaves x = busy();
         int[] want = {2, 2, 2, x.status(3), 6, x.status(5), x.status(6), 77, 0};
         for (int what = 0; what < want.length; what++) {

@@ -3,7 +3,9 @@ public final class MovesTest {
     public static void main(String[] args) {
         allKinds();
         wrapping();
+        lazyShutsByEachBit();
         noMove();
+        actChangesNothing();
         Due.end();
     }
 
@@ -52,10 +54,34 @@ public final class MovesTest {
         Due.due("shuts MIN", x.act(0, 2, Integer.MIN_VALUE), ((Integer.MIN_VALUE + 10) * 2) ^ Integer.MIN_VALUE);
     }
 
+    /** 60: super.shuts(x) ^ 5, whatever the two bits were. */
+    private static void lazyShutsByEachBit() {
+        PaidInLeaves x = new PaidInLeaves();
+        x.shop(5, 0, 1);
+        for (int v : new int[] {0, 1, 2, 3, 4, 5, 6, 7, -1, -5, Integer.MAX_VALUE, Integer.MIN_VALUE}) {
+            Due.due("shuts " + v, x.act(0, 2, v), v * 6 ^ v ^ 5);
+        }
+    }
+
+    /** A move tells; it sells no cake. */
+    private static void actChangesNothing() {
+        PaidInLeaves x = new PaidInLeaves();
+        Due.due("without shops", x.act(0, 0, 1), 0);
+        x.shop(1, 4, 7);
+        for (int move = 0; move < 3; move++) {
+            x.act(0, move, 99);
+        }
+        Due.due("sold", x.shopOf(0, 3), 0);
+        Due.due("asks", x.shopOf(0, 5), 7);
+        Due.due("deals", x.status(6), 0);
+        Due.due("till", x.status(3), 0);
+    }
+
     private static void noMove() {
         PaidInLeaves x = new PaidInLeaves();
         x.shop(0, 0, 1);
-        int[][] none = {{1, 0}, {-1, 0}, {0, 3}, {0, -1}};
+        int[][] none = {{1, 0}, {-1, 0}, {0, 3}, {0, -1}, {6, 0}, {1, 3}, {Integer.MIN_VALUE, 1}, {Integer.MAX_VALUE, 1},
+            {0, Integer.MIN_VALUE}, {0, Integer.MAX_VALUE}};
         for (int[] one : none) {
             x.act(0, 1, 5);
             Due.due("no such shop or move", x.act(one[0], one[1], 5), 0);

@@ -7,6 +7,9 @@ public final class ShelvesTest {
         sorts();
         copies();
         copyRefusals();
+        lowestBits();
+        emptyAndFullRows();
+        shelvesGiveWay();
         shows();
         saysByKinds();
         Due.end();
@@ -133,7 +136,78 @@ public final class ShelvesTest {
         Due.refused(x, 2, 3, 2, 1, 7, 0, 0);
     }
 
+    private static void lowestBits() {
+        Due.words("A ROW has a SORT (0 bytes, 1 shorts, 2 ints, 3 longs); what is put in keeps its lowest bits");
+        PaidInLeaves x = new PaidInLeaves();
+        for (int sort = 0; sort < 4; sort++) {
+            int bits = 8 << sort;
+            long most = Long.MAX_VALUE >> 64 - bits;
+            x.row(sort, sort, 160);
+            long[] in = {most, most + 1, -most - 1, -most - 2, -1, Long.MIN_VALUE, Long.MAX_VALUE};
+            long least = -most - 1;
+            long[] out = {most, least, least, most, -1, sort == 3 ? Long.MIN_VALUE : 0, sort == 3 ? Long.MAX_VALUE : -1};
+            for (int i = 0; i < in.length; i++) {
+                Due.due("set of sort " + sort, x.set(sort, 153 + i, in[i]), 1);
+                Due.due("element of sort " + sort + " for " + in[i], x.element(sort, 153 + i), out[i]);
+            }
+            Due.due("the one ahead", x.element(sort, 152), 0);
+        }
+    }
+
+    private static void emptyAndFullRows() {
+        Due.words("0 to 160 elements, 0 at first");
+        PaidInLeaves x = new PaidInLeaves();
+        for (int sort = 0; sort < 4; sort++) {
+            Due.due("an empty row", x.row(sort, sort, 0), 1);
+            Due.due("it is one", x.holds(sort), 100 + sort);
+            Due.due("no element", x.set(sort, 0, 1), -5);
+            Due.due("copy none of it", x.copy(sort, sort, 0, 0, 0), 1);
+            Due.due("copy one of it", x.copy(sort, sort, 0, 0, 1), -5);
+            Due.due("a full row", x.row(sort, sort, 160), 1);
+            Due.due("the last", x.set(sort, 159, 7), 1);
+            Due.due("none behind it", x.set(sort, 160, 7), -5);
+            Due.due("the first", x.set(sort, 0, 8), 1);
+            Due.due("none ahead of it", x.set(sort, -1, 7), -5);
+            Due.due("copy all onto itself", x.copy(sort, sort, 0, 0, 160), 1);
+            Due.due("copy all but one onwards", x.copy(sort, sort, 0, 1, 159), 1);
+            Due.due("the first stays", x.element(sort, 0), 8);
+            Due.due("the second", x.element(sort, 1), 8);
+            Due.due("the last was the last but one", x.element(sort, 159), 0);
+            Due.due("copy one too many", x.copy(sort, sort, 0, 0, 161), -5);
+            Due.due("a row anew", x.row(sort, sort, 160), 1);
+            Due.due("0 at first", x.element(sort, 0) + x.element(sort, 1), 0);
+        }
+        Due.refused(x, 0, 0, 0, 0, 20, 0, 0);
+    }
+
+    private static void shelvesGiveWay() {
+        Due.words("SHELVES 0 to 7 hold NOTHING (at first), a ROW, or a SHOP");
+        PaidInLeaves x = new PaidInLeaves();
+        x.shop(0, 0, 9);
+        for (int s = 0; s < 8; s++) {
+            Due.due("a row in " + s, x.row(s, 1, 5), 1);
+            Due.due("set", x.set(s, 4, 9), 1);
+            Due.due("a shop over it", x.show(s, 0), 1);
+            Due.due("holds a shop", x.holds(s), 0);
+            Due.due("no element", x.element(s, 4), 0);
+            Due.due("set in a shop", x.set(s, 4, 9), -2);
+            Due.due("says", x.says(s, 0), 9);
+            Due.due("nothing over it", x.show(s, -1), 0);
+            Due.due("holds nothing", x.holds(s), -1);
+            Due.due("no element", x.element(s, 4), 0);
+            Due.due("set in nothing", x.set(s, 4, 9), -3);
+            Due.due("judge of nothing", x.judge(s, 1), -13);
+            Due.due("nothing over nothing", x.show(s, -1), 0);
+            Due.due("a row again", x.row(s, 3, 5), 1);
+            Due.due("0 again", x.element(s, 4), 0);
+            Due.due("nothing over a row", x.show(s, -1), 0);
+            Due.due("holds nothing", x.holds(s), -1);
+        }
+        Due.refused(x, 0, 8, 16, 0, 0, 0, 0);
+    }
+
     private static void shows() {
+        Due.words("");
         PaidInLeaves x = new PaidInLeaves();
         Due.due("show of no shop", x.show(0, 0), -1);
         x.shop(0, 0, 1);
